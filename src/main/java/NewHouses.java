@@ -14,6 +14,8 @@ public final class NewHouses {
     private static final int MOST_ACTS = 40;
     private static final int MOST_SEEN = 8;
     private static final int MOST_RANK = 9;
+    /** No difference of RANKS, summed, is as great. */
+    private static final int MORE_THAN_RANKS = 1000;
     private static final int LAST_EVENING = 9999;
     private static final int MOST_EVENINGS_AN_ACT = 20;
     private static final int FAR = 100;
@@ -46,7 +48,8 @@ public final class NewHouses {
     private final Reader reader = new Reader();
     private final Friends friends = new Friends();
     private final Dusk dusk = new Dusk();
-    private final Coming coming = new Coming(dusk);
+    private final Village now = new Village();
+    private final Coming coming = new Coming(dusk, now);
     private final Acts acts = new Acts();
     private final Seen seen = new Seen();
     private final Pairs pairs = new Pairs();
@@ -93,7 +96,7 @@ public final class NewHouses {
             return fault;
         }
         faultPlace = NONE;
-        coming.now().copyFrom(reader.village);
+        now.copyFrom(reader.village);
         friends.copyFrom(reader.friends);
         dusk.picks.copyFrom(reader.picks);
         dusk.keeps.copyFrom(reader.keeps);
@@ -111,7 +114,6 @@ public final class NewHouses {
     // ---- what is so now
 
     public int count(int what) throws NoSuchElementException {
-        Village now = coming.now();
         switch (what) {
             case 0: return now.people;
             case 1: return now.houses;
@@ -136,7 +138,6 @@ public final class NewHouses {
 
     public int person(int person, int what) throws NoSuchElementException {
         needPerson(person);
-        Village now = coming.now();
         switch (what) {
             case 0: return now.home[person];
             case 1: return now.place[person];
@@ -153,7 +154,6 @@ public final class NewHouses {
 
     public int house(int house, int what) throws NoSuchElementException {
         needHouse(house);
-        Village now = coming.now();
         switch (what) {
             case 0: return now.size[house];
             case 1: return now.dwellers(house);
@@ -169,7 +169,6 @@ public final class NewHouses {
     // ---- ACTS
 
     public int evenings(int many) {
-        Village now = coming.now();
         if (many < 1 || many > MOST_EVENINGS_AN_ACT || now.evening + many > LAST_EVENING) {
             return refuse(ACTS);
         }
@@ -182,7 +181,6 @@ public final class NewHouses {
     public int move(int person, int house) throws NoSuchElementException {
         needPerson(person);
         needHouse(house);
-        Village now = coming.now();
         int before = now.home[person];
         if (before == house) {
             return refuse(ACTS);
@@ -195,7 +193,6 @@ public final class NewHouses {
 
     public int found(int person) throws NoSuchElementException {
         needPerson(person);
-        Village now = coming.now();
         if (now.isAlone(person)) {
             return refuse(ACTS);
         }
@@ -211,7 +208,6 @@ public final class NewHouses {
         if (house == to) {
             return refuse(ACTS);
         }
-        Village now = coming.now();
         int together = now.size[house] + now.size[to];
         acts.keep(now);
         now.joinTo(house, to);
@@ -221,7 +217,6 @@ public final class NewHouses {
 
     public int rank(int person, int rank) throws NoSuchElementException {
         needPerson(person);
-        Village now = coming.now();
         int before = now.rank[person];
         if (rank < 0 || rank > MOST_RANK || rank == before) {
             return refuse(ACTS);
@@ -236,7 +231,7 @@ public final class NewHouses {
         if (acts.many == 0) {
             return NONE;
         }
-        acts.takeBack(coming.now());
+        acts.takeBack(now);
         coming.changed();
         return acts.many;
     }
@@ -338,21 +333,21 @@ public final class NewHouses {
     public int toMeet(int person, int other) throws NoSuchElementException {
         needPerson(person);
         needPerson(other);
-        if (coming.now().inOne(person, other)) {
+        if (now.inOne(person, other)) {
             return NONE;
         }
-        return trials.bestMove(coming.now(), person, other, coming.firstWith(person, other, true));
+        return trials.bestMove(now, person, other, coming.firstWith(person, other, true));
     }
 
     public int partners(int what) throws NoSuchElementException {
         needWhat(what, 1);
-        return what == 0 ? pairs.many(coming.now()) : pairs.difference(coming.now());
+        return what == 0 ? pairs.many(now) : pairs.difference(now);
     }
 
     public int halves(int what) throws NoSuchElementException {
         needWhat(what, 1);
-        int half = pairs.firstHalf(coming.now());
-        return what == 0 ? pairs.differenceBy(coming.now(), half) : half;
+        int half = pairs.firstHalf(now);
+        return what == 0 ? pairs.differenceBy(now, half) : half;
     }
 
     public int chain(int person, int other) throws NoSuchElementException {
@@ -379,16 +374,16 @@ public final class NewHouses {
     public int ranked(int what) throws NoSuchElementException {
         needWhat(what, 2);
         if (what == 2) {
-            return trials.isSoWithout(coming.now(), seen) ? 1 : 0;
+            return trials.isSoWithout(now, seen) ? 1 : 0;
         }
-        trials.tryRanks(coming.now(), seen);
+        trials.tryRanks(now, seen, false);
         return what == 0 ? trials.rankedMany : trials.rankedFirst;
     }
 
     public int look(int what) throws NoSuchElementException {
         needWhat(what, 1);
-        trials.tryRanks(coming.now(), seen);
-        int whom = trials.mostUnlike(coming.now().people);
+        trials.tryRanks(now, seen, true);
+        int whom = trials.mostUnlike(now.people);
         if (what == 0) {
             return whom;
         }
@@ -403,7 +398,7 @@ public final class NewHouses {
         needPerson(other);
         needWithin(evenings, 1, 5);
         needWithin(tenths, 0, 10);
-        return trials.byStorms(coming.now(), person, other, evenings, tenths);
+        return trials.byStorms(now, person, other, evenings, tenths);
     }
 
     public int game(int person, int other, int what) throws NoSuchElementException, IllegalArgumentException {
@@ -413,14 +408,14 @@ public final class NewHouses {
         if (person == other) {
             throw new IllegalArgumentException("a game is of two");
         }
-        trials.play(coming.now(), friends, person, other);
+        trials.play(now, friends, person, other);
         return what == 0 ? trials.restsMany() : trials.restsFirst();
     }
 
     public int years(int seed, int n, int what) throws NoSuchElementException, IllegalArgumentException {
         needWhat(what, 2);
         needWithin(n, 0, FAR);
-        return trials.liveYears(coming.now(), seed, n, what);
+        return trials.liveYears(now, seed, n, what);
     }
 
     public int ahead(int evenings, int what) throws NoSuchElementException, IllegalArgumentException {
@@ -430,19 +425,19 @@ public final class NewHouses {
             case 0: return coming.mostRestless(evenings);
             case 1: return coming.behind(evenings).steadiest();
             case 2: return coming.behind(evenings).oldest();
-            default: return coming.knownWithin(evenings).strangers(coming.now().people);
+            default: return coming.knownWithin(evenings).strangers(now.people);
         }
     }
 
     public int toJoin() {
-        return trials.bestJoin(coming.now(), coming.untilAllKnown());
+        return trials.bestJoin(now, coming.untilAllKnown());
     }
 
     // ---- the image
 
     public void image() {
         imaged = true;
-        imageNow.copyFrom(coming.now());
+        imageNow.copyFrom(now);
         imageActs.copyFrom(acts);
         imageSeen.copyFrom(seen);
     }
@@ -451,7 +446,7 @@ public final class NewHouses {
         if (!imaged) {
             return false;
         }
-        coming.now().copyFrom(imageNow);
+        now.copyFrom(imageNow);
         coming.changed();
         acts.copyFrom(imageActs);
         seen.copyFrom(imageSeen);
@@ -461,13 +456,13 @@ public final class NewHouses {
     // ---- what calls need
 
     private void needPerson(int person) {
-        if (person < 0 || person >= coming.now().people) {
+        if (person < 0 || person >= now.people) {
             throw new NoSuchElementException("no such person");
         }
     }
 
     private void needHouse(int house) {
-        if (house < 0 || house >= coming.now().houses) {
+        if (house < 0 || house >= now.houses) {
             throw new NoSuchElementException("no such house");
         }
     }
@@ -780,30 +775,30 @@ public final class NewHouses {
             int top = 0;
             for (int i = 0; i < length; i++) {
                 int step = steps[i];
-                if (step == FIRST_SIGN + '!' && top > 0) {
-                    stack[top - 1] = stack[top - 1] == 0 ? 1 : 0;
-                } else if (step >= FIRST_SIGN && top > 1) {
-                    top--;
-                    stack[top - 1] = combine(step - FIRST_SIGN, stack[top - 1], stack[top]);
-                } else if (step < FIRST_SIGN && top < DEEPEST) {
+                if (step < FIRST_SIGN && top < DEEPEST) {
                     stack[top] = step < FIRST_VALUE ? step : values[step - FIRST_VALUE];
                     top++;
+                } else if (step == FIRST_SIGN + '!' && top > 0) {
+                    stack[top - 1] = stack[top - 1] == 0 ? 1 : 0;
+                } else if (top > 1) {
+                    top--;
+                    int left = stack[top - 1];
+                    int right = stack[top];
+                    int both;
+                    switch (step - FIRST_SIGN) {
+                        case '+': both = left + right; break;
+                        case '-': both = left - right; break;
+                        case '*': both = left * right; break;
+                        case '/': both = right == 0 ? 0 : left / right; break;
+                        case '<': both = left < right ? 1 : 0; break;
+                        case '=': both = left == right ? 1 : 0; break;
+                        case '&': both = left != 0 && right != 0 ? 1 : 0; break;
+                        default: both = left != 0 || right != 0 ? 1 : 0; break;
+                    }
+                    stack[top - 1] = both;
                 }
             }
             return top > 0 ? stack[0] : 0;
-        }
-
-        private static int combine(int sign, int left, int right) {
-            switch (sign) {
-                case '+': return left + right;
-                case '-': return left - right;
-                case '*': return left * right;
-                case '/': return right == 0 ? 0 : left / right;
-                case '<': return left < right ? 1 : 0;
-                case '=': return left == right ? 1 : 0;
-                case '&': return left != 0 && right != 0 ? 1 : 0;
-                default: return left != 0 || right != 0 ? 1 : 0;
-            }
         }
     }
 
@@ -957,40 +952,40 @@ public final class NewHouses {
             while (start < length && (text[start] == ' ' || text[start] == '\n')) {
                 start++;
             }
-            end = start;
             if (start >= length) {
+                end = start;
                 kind = END;
-            } else if (isLetter(text[start])) {
+                return;
+            }
+            int first = text[start] & 255;
+            if (first >= 'a' && first <= 'z') {
                 kind = WORD;
-                while (end < length && isLetter(text[end])) {
-                    end++;
-                }
-            } else if (isDigit(text[start])) {
-                readNumber();
+                end = endOfRow('a', 'z');
+            } else if (first >= '0' && first <= '9') {
+                kind = NUMBER;
+                end = endOfRow('0', '9');
+                number = numberTold();
             } else {
-                int sign = text[start] & 255;
-                kind = SIGNS.indexOf((char) sign) >= 0 ? sign : BAD;
-                end++;
+                kind = SIGNS.indexOf((char) first) >= 0 ? first : BAD;
+                end = start + 1;
             }
         }
 
-        private void readNumber() {
-            kind = NUMBER;
-            number = 0;
-            while (end < length && isDigit(text[end])) {
-                if (end - start < MOST_DIGITS) {
-                    number = number * 10 + text[end] - '0';
-                }
-                end++;
+        private int endOfRow(char least, char most) {
+            int i = start;
+            while (i < length && text[i] >= least && text[i] <= most) {
+                i++;
             }
+            return i;
         }
 
-        private static boolean isLetter(int c) {
-            return c >= 'a' && c <= 'z';
-        }
-
-        private static boolean isDigit(int c) {
-            return c >= '0' && c <= '9';
+        /** Only the digits that a NUMBER may have count: with more it is a FAULT anyhow. */
+        private int numberTold() {
+            int told = 0;
+            for (int i = start; i < end && i < start + MOST_DIGITS; i++) {
+                told = told * 10 + text[i] - '0';
+            }
+            return told;
         }
 
         private boolean isWord(String word) {
@@ -1218,30 +1213,11 @@ public final class NewHouses {
             if (isWord("evening")) {
                 return EVENING;
             }
-            return ofPicks ? valueOfPerson() : valueOfHouse();
-        }
-
-        private int valueOfPerson() {
-            if (isWord("rank")) {
-                return RANK;
+            if (ofPicks) {
+                return isWord("rank") ? RANK : isWord("place") ? PLACE : isWord("since") ? SINCE
+                        : isWord("moves") ? MOVES : NONE;
             }
-            if (isWord("place")) {
-                return PLACE;
-            }
-            if (isWord("since")) {
-                return SINCE;
-            }
-            return isWord("moves") ? MOVES : NONE;
-        }
-
-        private int valueOfHouse() {
-            if (isWord("house")) {
-                return HOUSE;
-            }
-            if (isWord("ranks")) {
-                return RANKS;
-            }
-            return isWord("old") ? OLD : NONE;
+            return isWord("house") ? HOUSE : isWord("ranks") ? RANKS : isWord("old") ? OLD : NONE;
         }
 
         private void houseTheRest() {
@@ -1402,41 +1378,40 @@ public final class NewHouses {
     /** Now, and what comes if only EVENINGS go by: kept until something changes, for many calls ask the same. */
     static final class Coming {
         private final Dusk dusk;
-        private final Village[] behind = new Village[FARTHEST + 1];
+        private final Village now;
+        private final Village[] rows = new Village[FARTHEST + 1];
         private final int[] gone = new int[FARTHEST + 1];
         private final long[] keys = new long[FARTHEST + 1];
         private final Known known = new Known();
         private int ready = 0;
 
-        Coming(Dusk ofTheVillage) {
+        Coming(Dusk ofTheVillage, Village village) {
             dusk = ofTheVillage;
-            for (int i = 0; i <= FARTHEST; i++) {
-                behind[i] = new Village();
-            }
-        }
-
-        Village now() {
-            return behind[0];
+            now = village;
+            rows[0] = village;
         }
 
         void changed() {
             ready = 0;
         }
 
+        /** Rows are made when first needed, and kept: most objects never look so far. */
+        private Village row(int i) {
+            if (rows[i] == null) {
+                rows[i] = new Village();
+            }
+            return rows[i];
+        }
+
         /** The VILLAGE behind so many EVENINGS (0 to 200). */
         Village behind(int evenings) {
             for (int i = ready; i < evenings && i < FARTHEST; i++) {
-                behind[i + 1].copyFrom(behind[i]);
-                gone[i + 1] = dusk.pass(behind[i + 1], 0);
+                Village next = row(i + 1);
+                next.copyFrom(row(i));
+                gone[i + 1] = dusk.pass(next, 0);
                 ready = i + 1;
             }
-            return behind[evenings];
-        }
-
-        /** Whether one goes on the EVENING of that number from now on (1 to 200). */
-        private boolean isGoing(int person, int evenings) {
-            behind(evenings);
-            return (gone[evenings] >> person & 1) != 0;
+            return row(evenings);
         }
 
         /** Behind how many EVENINGS two live in one HOUSE first, or first don't. */
@@ -1451,7 +1426,8 @@ public final class NewHouses {
 
         int firstGoing(int person) {
             for (int i = 1; i <= FAR; i++) {
-                if (isGoing(person, i)) {
+                behind(i);
+                if ((gone[i] >> person & 1) != 0) {
                     return i;
                 }
             }
@@ -1462,25 +1438,24 @@ public final class NewHouses {
             int longest = 0;
             int stay = 0;
             for (int i = 1; i <= FAR; i++) {
-                stay = isGoing(person, i) ? 0 : stay + 1;
+                behind(i);
+                stay = (gone[i] >> person & 1) != 0 ? 0 : stay + 1;
                 longest = Math.max(longest, stay);
             }
             return longest;
         }
 
-        /** Nobody comes into a HOUSE of now, so it falls when the last one of those in it has gone first. */
+        /** Nobody comes into a HOUSE of now, so it is empty when each of those in it has gone once. */
         int firstEmpty(int house) {
-            int last = 0;
-            for (int p = 0; p < now().people; p++) {
-                if (now().home[p] == house) {
-                    int going = firstGoing(p);
-                    if (going == NONE) {
-                        return NONE;
-                    }
-                    last = Math.max(last, going);
+            int left = now.dwellers(house);
+            for (int i = 1; i <= FAR; i++) {
+                behind(i);
+                left &= ~gone[i];
+                if (left == 0) {
+                    return i;
                 }
             }
-            return last;
+            return NONE;
         }
 
         /** ROUND: behind how many EVENINGS it begins, or how long it is. */
@@ -1509,7 +1484,7 @@ public final class NewHouses {
 
         private boolean isAsNow(Village then) {
             for (int p = 0; p < then.people; p++) {
-                if (then.companions(p) != now().companions(p)) {
+                if (then.companions(p) != now.companions(p)) {
                     return false;
                 }
             }
@@ -1528,7 +1503,7 @@ public final class NewHouses {
             known.clear();
             for (int i = 0; i <= FAR; i++) {
                 known.liveTogether(behind(i));
-                if (known.isAll(now().people)) {
+                if (known.isAll(now.people)) {
                     return i;
                 }
             }
@@ -1540,7 +1515,7 @@ public final class NewHouses {
             int whom = NONE;
             int most = 0;
             for (int p = 0; p < then.people; p++) {
-                int often = then.moves[p] - now().moves[p];
+                int often = then.moves[p] - now.moves[p];
                 if (often > most) {
                     whom = p;
                     most = often;
@@ -1555,16 +1530,18 @@ public final class NewHouses {
         int many = 0;
         private final Village[] before = new Village[MOST_ACTS];
 
-        Acts() {
-            for (int i = 0; i < MOST_ACTS; i++) {
+        /** Rows are made when first needed, and kept: most objects have few ACTS. */
+        private Village row(int i) {
+            if (before[i] == null) {
                 before[i] = new Village();
             }
+            return before[i];
         }
 
         void copyFrom(Acts other) {
             many = other.many;
             for (int i = 0; i < many; i++) {
-                before[i].copyFrom(other.before[i]);
+                row(i).copyFrom(other.row(i));
             }
         }
 
@@ -1572,7 +1549,7 @@ public final class NewHouses {
             if (many >= MOST_ACTS) {
                 dropFirst();
             }
-            before[many].copyFrom(now);
+            row(many).copyFrom(now);
             many++;
         }
 
@@ -1588,7 +1565,7 @@ public final class NewHouses {
         void takeBack(Village now) {
             if (many > 0) {
                 many--;
-                now.copyFrom(before[many]);
+                now.copyFrom(row(many));
             }
         }
     }
@@ -1693,7 +1670,7 @@ public final class NewHouses {
             if (Integer.bitCount(set) % 2 == 0) {
                 return leastOfEven(village, set);
             }
-            int least = Integer.MAX_VALUE;
+            int least = MORE_THAN_RANKS;
             for (int p = 0; p < village.people; p++) {
                 if ((set >> p & 1) != 0) {
                     least = Math.min(least, leastOfEven(village, set & ~(1 << p)));
@@ -1725,7 +1702,7 @@ public final class NewHouses {
         /** The half with PERSON 0, as bits; sets come by their bits, so the first is the least. */
         int firstHalf(Village village) {
             int best = 0;
-            int least = Integer.MAX_VALUE;
+            int least = MORE_THAN_RANKS;
             for (int set = 1; set < 1 << village.people; set += 2) {
                 int difference = differenceBy(village, set);
                 if (difference < least) {
@@ -1830,49 +1807,51 @@ public final class NewHouses {
 
         boolean isSoWithout(Village now, Seen seen) {
             trial.copyFrom(now);
-            return passesAsSeen(seen, seen.last());
+            return passesAsSeen(seen);
         }
 
-        /** Whether all SEEN is so on the trial's way, which ends behind so many EVENINGS. */
-        private boolean passesAsSeen(Seen seen, int evenings) {
-            for (int i = 0; i <= evenings; i++) {
+        /** Whether all SEEN is so on the trial's way, which ends behind the last that is SEEN. */
+        private boolean passesAsSeen(Seen seen) {
+            int last = seen.last();
+            for (int i = 0; i <= last; i++) {
                 if (!seen.fits(trial, i)) {
                     return false;
                 }
-                if (i < evenings) {
+                if (i < last) {
                     dusk.pass(trial, 0);
                 }
             }
             return true;
         }
 
-        /** RANKED, and the sizes of HOUSES in which each would live by these. */
-        void tryRanks(Village now, Seen seen) {
+        /** RANKED, and, if they are asked for, the sizes of HOUSES in which each would live by these. */
+        void tryRanks(Village now, Seen seen, boolean sizesToo) {
             rankedMany = 0;
             rankedFirst = NONE;
             Arrays.fill(unlike, 0);
             for (int p = 0; p < now.people; p++) {
                 for (int r = 0; r <= MOST_RANK; r++) {
-                    if (r != now.rank[p] && isSoBy(now, p, r, seen)) {
+                    tryWith(now, p, r);
+                    if (r != now.rank[p] && passesAsSeen(seen)) {
                         if (rankedMany == 0) {
                             rankedFirst = 10 * p + r;
                         }
                         rankedMany++;
-                        noteSizes(now, p, r);
+                        if (sizesToo) {
+                            tryWith(now, p, r);
+                            noteSizes();
+                        }
                     }
                 }
             }
         }
 
-        private boolean isSoBy(Village now, int person, int rank, Seen seen) {
+        private void tryWith(Village now, int person, int rank) {
             trial.copyFrom(now);
             trial.rank[person] = rank;
-            return passesAsSeen(seen, seen.last());
         }
 
-        private void noteSizes(Village now, int person, int rank) {
-            trial.copyFrom(now);
-            trial.rank[person] = rank;
+        private void noteSizes() {
             for (int i = 0; i < LOOK_BEHIND; i++) {
                 dusk.pass(trial, 0);
             }
