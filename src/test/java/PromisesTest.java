@@ -409,7 +409,28 @@ public final class PromisesTest {
         due("would be 10000", x.evenings(20), -1);
         due("9999", x.evenings(19), 9999);
         due("no more", x.evenings(1), -1);
+        // Those behind come up; the new HOUSE is in the order of HOUSES, not of PEOPLE: 120 43 -> 10 3 24 -> 0 4 132 -> 13 042
+        NewHouses y = told(people(1, 5, 9, 2, 7) + "house 1 2 0;house 4 3;picks rank;");
+        y.evenings(1);
+        row(y, 0, 1, 0);
+        row(y, 1, 3);
+        row(y, 2, 2, 4);
+        y.evenings(1);
+        row(y, 0, 0);
+        row(y, 1, 4);
+        row(y, 2, 1, 3, 2);
+        y.evenings(1);
+        row(y, 0, 1, 3);
+        row(y, 1, 0, 4, 2);
         due("beyond is still told", x.then(0, 100, 2) - x.person(0, 3) > 0 ? 1 : 0, 1);
+    }
+
+    private static void row(NewHouses x, int house, int... people) {
+        due("size of house " + house, x.house(house, 0), people.length);
+        for (int i = 0; i < people.length; i++) {
+            due("who in " + house + " at " + i, x.who(house, i, 0), people[i]);
+            due("place of " + people[i], x.person(people[i], 1), i);
+        }
     }
 
     // 9
@@ -550,6 +571,8 @@ public final class PromisesTest {
         no("what", () -> x.later(0, -1));
         bad("evenings", () -> x.later(101, 4));
         bad("evenings", () -> x.later(-1, 0));
+        due("now", x.who(0, 2, 0), 2);
+        due("now", x.size(0, 0), 3);
         due("who", x.who(1, 2, 1), 4);
         due("who", x.who(1, 0, 4), 2);
         due("no such place", x.who(1, 3, 4), -1);
@@ -574,6 +597,11 @@ public final class PromisesTest {
         due("both one", x.meet(3, 3, 0), -1);
         due("both one", x.meet(3, 3, 1), -1);
         due("never part", told(people(0, 0) + "house 0 1;keeps 1;").meet(0, 1, 1), -1);
+        due("meet on the last", told(people(0, 0) + "keeps evening<99;").meet(0, 1, 0), 100);
+        due("meet too late", told(people(0, 0) + "keeps evening<100;").meet(0, 1, 0), -1);
+        due("part on the last", told(people(0, 0) + "house 0 1;keeps evening<99;").meet(0, 1, 1), 100);
+        due("part too late", told(people(0, 0) + "house 0 1;keeps evening<100;").meet(0, 1, 1), -1);
+        due("one evening", x.together(0, 1, 1), 1);
         no("what", () -> x.meet(0, 1, 2));
         no("what", () -> x.meet(0, 1, -1));
         no("person", () -> x.meet(5, 1, 0));
@@ -627,6 +655,14 @@ public final class PromisesTest {
         NewHouses late = told(people(0, 0) + "house 0 1;keeps not evening=199;");
         due("till 199 as now", late.asNow(), 1);
         due("at once", late.round(1), 1);
+        NewHouses last = told(people(0, 0) + "house 0 1;keeps not (evening=0 or evening=199);");
+        due("just within 200", last.asNow(), 200);
+        due("2 comes again on the last", last.round(0), 0);
+        due("2 comes again on the last", last.round(1), 200);
+        NewHouses beyond = told(people(0, 0) + "house 0 1;keeps not (evening=0 or evening=200);");
+        due("beyond 200", beyond.asNow(), -1);
+        due("2 comes no more, 1 1 does", beyond.round(0), 1);
+        due("2 comes no more, 1 1 does", beyond.round(1), 1);
         NewHouses far = told(people(0, 0, 0) + "house 0 1 2;keeps 0<evening and evening<199 or size=1 and evening=199;");
         // 012, then 01 2 for long, on the last 0 12
         due("not within 200", far.asNow(), -1);
@@ -812,6 +848,17 @@ public final class PromisesTest {
         NewHouses kept = told(people(0, 0) + "house 0 1;keeps 1;");
         due("nobody hides", kept.game(0, 1, 0), 1);
         due("nobody hides", kept.game(0, 1, 1), 0);
+        // 0 1 -> 01 -> 0 1 ..: apart behind 6, but together, if anybody hides.
+        NewHouses two = told(people(0, 0));
+        due("all but both", two.game(0, 1, 0), 3);
+        due("nobody hides first", two.game(0, 1, 1), 0);
+        NewHouses pals = told(people(0, 0) + "friends 1 0;");
+        due("just one", pals.game(0, 1, 0), 2);
+        due("the other one first", pals.game(0, 1, 1), 1);
+        // Behind 6: 2 10 for 3, 1; if 2 hides 0 12 for 1, 2; if 0 hides 1 20 for 1, 2; if both 2 01 for 2, 0.
+        NewHouses never = told(people(0, 0, 0) + "picks 0-since*3-place;friends 1 0;friends 1 2;");
+        due("none rests", never.game(0, 2, 0), 0);
+        due("none is first", never.game(0, 2, 1), -1);
         no("what ahead", () -> x.game(1, 1, 2));
         no("what", () -> x.game(1, 2, -1));
         no("person", () -> x.game(3, 0, 0));

@@ -37,17 +37,39 @@ final class Texts {
         java.util.Collections.shuffle(couples, random);
         int c = Math.min(couples.size(), below(13));
         for (int i = 0; i < c; i++) lines.add("friends " + couples.get(i) + ";");
-        if (below(4) > 0) lines.add(below(lines.size() + 1), "picks " + expr(PICKS, 0) + ";");
+        if (below(4) > 0) lines.add(below(lines.size() + 1), "picks " + picks() + ";");
         if (below(3) == 0) lines.add(below(lines.size() + 1), "keeps " + keeps() + ";");
         StringBuilder s = new StringBuilder();
         for (String line : lines) s.append(line).append(below(3) == 0 ? "\n" : below(2) == 0 ? " " : "");
         return s.toString();
     }
 
+    /** Mostly such as pick another one than the last, for of random ones few do. */
+    private String picks() {
+        int k = 2 + below(4);
+        switch (below(16)) {
+            case 0: return "rank";
+            case 1: return "0-rank";
+            case 2: return "0-place";
+            case 3: return "since*" + k + "+rank";
+            case 4: return "0-since*" + k + "-place";
+            case 5: return "moves*" + k + "+rank";
+            case 6: return "0-moves";
+            case 7: return "(rank+evening)-(rank+evening)/" + k + "*" + k;
+            case 8: return "place=evening-evening/" + k + "*" + k;
+            case 9: return "rank=moves or place<since";
+            case 10: return "(size-place*" + k + ")*(evening-evening/2*2)";
+            case 11: return "not rank<" + k + " and since<" + k;
+            case 12: return "rank*rank-place*size*" + k;
+            default: return expr(PICKS, 0);
+        }
+    }
+
     private String keeps() {
-        switch (below(5)) {
+        switch (below(6)) {
+            case 5: return "not ranks/" + (3 + below(9)) + "-evening/" + (1 + below(3)) + " and old<" + (1 + below(9));
             case 0: return "size<" + (1 + below(4));
-            case 1: return "evening-evening/" + (2 + below(5)) + "*" + (2 + below(5)) + "=" + below(3);
+            case 1: { int k = 2 + below(4); return "evening-evening/" + k + "*" + k + "=" + below(k); }
             case 2: return "old<" + below(3);
             case 3: return "ranks=" + below(20) + " or house=" + below(4);
             default: return expr(KEEPS, 0) + " and size < " + below(6);
