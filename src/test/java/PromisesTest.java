@@ -91,6 +91,7 @@ public final class PromisesTest {
         aheads();
         toJoins();
         images();
+        changes();
         System.out.println(wrong == 0 ? "all promises are kept" : wrong + " answers are not as due");
         if (wrong != 0) System.exit(1);
     }
@@ -188,6 +189,8 @@ public final class PromisesTest {
         fault("person 5 \n", 1, 10);
         fault("person 5 5;", 1, 9);
         fault("persons 5;", 1, 0);
+        fault("xerson 5;", 1, 0);
+        fault("persox 5;", 1, 0);
         fault("per son 5;", 1, 0);
         fault("Person 5;", 1, 0);
         fault("person\t5;", 1, 6);
@@ -452,6 +455,10 @@ public final class PromisesTest {
         due("its number then", x.person(2, 0), 1);
         due("its place", x.person(2, 1), 2);
         due("the house's age stays", x.house(1, 6), 0);
+        NewHouses y = told(people(0, 0, 0, 0) + "house 2 0 1;");
+        y.move(2, 1);
+        row(y, 0, 0, 1);
+        row(y, 1, 3, 2);
         no("no such person", () -> x.move(5, 0));
         no("no such house", () -> x.move(0, 2));
         no("no such house", () -> x.move(0, -1));
@@ -522,7 +529,10 @@ public final class PromisesTest {
         x.rank(0, 7);
         due("undo a rank", x.undo(), 39);
         due("rank", x.person(0, 2), 5);
-        for (int i = 38; i >= 0; i--) due("undo", x.undo(), i);
+        for (int i = 38; i >= 0; i--) {
+            due("undo", x.undo(), i);
+            due("the evening behind it", x.count(2), i + 5);
+        }
         due("the evening", x.count(2), 5);
         due("no more", x.undo(), -1);
         x.move(3, 0);
@@ -699,6 +709,7 @@ public final class PromisesTest {
         // 0 12 -> 1 02 -> 0 12: never; 2 to 0: 02 1 -> 0 21 -> 2 01
         due("2 to 0", x.toMeet(0, 1), 200);
         due("either way", x.toMeet(1, 0), 200);
+        due("0 to 0", told(people(0, 0, 0) + "house 1;house 2 0;").toMeet(1, 2), 0);
         due("in one house", x.toMeet(1, 2), -1);
         due("one", x.toMeet(1, 1), -1);
         due("nothing moved", x.count(11), 0);
@@ -722,6 +733,7 @@ public final class PromisesTest {
         row(people(1, 9, 2, 8) + "house 0 1 2 3;", 2, 2, 2, 3, 0, 1);
         row(people(1, 9, 2, 8) + "house 0 1;house 2 3;", 2, 14, 1, 0, 3, 2);
         row(people(3, 3, 3), 0, 0, -1, -1, -1);
+        row(people(5, 5, 4, 9) + "house 0 1 2 3;", 2, 5, 1, 0, 3, 2);
         // 0 could be left out, too: 4 5 and 8 9 are as near, but a row with nobody is behind all.
         row(people(5, 4, 6, 0, 1) + "house 0 1 2 3 4;", 2, 2, 1, 0, -1, 4, 3);
         NewHouses x = told(FIVE);
@@ -948,6 +960,12 @@ public final class PromisesTest {
         due("2 to 0", z.toJoin(), 200);
         z.join(2, 0);
         due("for 3", z.allKnown(), 3);
+        // The first ones go. 0 to 1: 0124 3 -> 124 03 -> 24 3 10 -> 4 0 231 -> 31 402 -> 1 02 34, for 5;
+        // 0 to 2: 0 3124 -> 124 03 -> 24 3 10 -> 4 0 231 -> 31 402, for 4; others for 4 or 5.
+        NewHouses v = told(people(0, 0, 0, 0, 0) + "house 1 2 4;picks 0-place;");
+        due("one sooner", v.toJoin(), 2);
+        v.join(0, 2);
+        due("for 4", v.allKnown(), 4);
     }
 
     // 39, 40
@@ -991,5 +1009,46 @@ public final class PromisesTest {
         due("the other one", x.restore() ? 1 : 0, 1);
         due("the other one", x.count(2), 5);
         due("its acts", x.count(11), 1);
+        NewHouses y = told(people(0, 5, 5) + "house 0 1 2;picks rank;keeps size<3;");
+        y.see(1, 1, 1);
+        y.image();
+        y.forget();
+        y.see(0, 0, 3);
+        due("so by what is seen now", y.ranked(0), 27);
+        y.restore();
+        due("so by what was seen", y.ranked(0), 9);
+    }
+
+    /** What was told of later holds no more when anything has changed. */
+    private static void changes() {
+        NewHouses x = told(FIVE);
+        due("as told", x.later(2, 0), 3);
+        x.move(3, 0);
+        // 0123 4 -> 012 34 -> 01 3 24
+        due("moved", x.later(2, 2), 8);
+        x.undo();
+        due("undone", x.later(2, 2), 1);
+        x.found(2);
+        // 01 3 4 2 -> 0 1342 -> 134 02
+        due("founded", x.later(2, 0), 2);
+        x.undo();
+        x.later(2, 0);
+        x.join(1, 2);
+        // 012 43 -> 01 4 23 -> 0 2 143
+        due("joined", x.later(2, 2), 5);
+        x.undo();
+        x.image();
+        x.evenings(2);
+        // 0 23 14 -> 2 1 034 -> 03 214
+        due("behind evenings", x.later(2, 2), 0);
+        x.restore();
+        due("restored", x.later(2, 2), 1);
+        NewHouses y = told(people(0, 1) + "house 0 1;picks rank;keeps size<2;");
+        due("1 goes", y.goes(1, 0), 1);
+        y.rank(0, 5);
+        due("0 goes", y.goes(1, 0), -1);
+        feed(y, "person 0;person 0;house 1 0;");
+        y.village(28);
+        due("another village", y.goes(1, 0), 2);
     }
 }
