@@ -921,6 +921,8 @@ public final class NewHouses {
         private int end = 0;
         private int kind = END;
         private int number = 0;
+        /** Which VALUES the EXPR that is read may ask. */
+        private boolean ofPicks = false;
 
         /** The FAULT, or 0. */
         int read(byte[] bytes, int many) {
@@ -1011,10 +1013,10 @@ public final class NewHouses {
                 return friendsLine();
             }
             if (isWord("picks")) {
-                return ruleLine(picks);
+                return ruleLine(picks, true);
             }
             if (isWord("keeps")) {
-                return ruleLine(keeps);
+                return ruleLine(keeps, false);
             }
             return MISPLACED;
         }
@@ -1100,11 +1102,12 @@ public final class NewHouses {
             return lineEnd();
         }
 
-        private int ruleLine(Rule rule) {
+        private int ruleLine(Rule rule, boolean isPicks) {
             if (rule.told) {
                 return SECOND_RULE;
             }
             rule.told = true;
+            ofPicks = isPicks;
             next();
             int fault = expr(rule, 0);
             return fault != FINE ? fault : lineEnd();
@@ -1194,7 +1197,7 @@ public final class NewHouses {
                 }
                 rule.add(number);
             } else if (kind == WORD) {
-                int value = valueAsked(rule == picks);
+                int value = valueAsked();
                 if (value == NONE) {
                     return UNKNOWN;
                 }
@@ -1206,7 +1209,7 @@ public final class NewHouses {
             return FINE;
         }
 
-        private int valueAsked(boolean ofPicks) {
+        private int valueAsked() {
             if (isWord("size")) {
                 return SIZE;
             }
