@@ -216,6 +216,9 @@ public final class EdgesOfActsTest {
         NewHouses x = Edge.told("person 0;person 9;person 0;person 0;house 0 1 2;picks rank;");
         x.evenings(1);
         rows(x, "0 2|1 3");
+        NewHouses first = Edge.told("person 0;person 9;house 1 0;picks rank;");
+        first.evenings(1);
+        rows(first, "0|1");
         NewHouses empty = Edge.told("person 0;person 0;person 0;house 0;house 1 2;");
         empty.evenings(1);
         rows(empty, "1|0 2");
@@ -317,6 +320,12 @@ public final class EdgesOfActsTest {
         NewHouses x = Edge.told(Edge.FIVE);
         x.move(0, 1);
         rows(x, "1 2|3 0|4");
+        NewHouses up = Edge.told("person 0;person 0;person 0;house 1 0;");
+        up.move(1, 1);
+        rows(up, "0|2 1");
+        NewHouses behind = Edge.told("person 0;person 0;person 0;house 1 0;");
+        behind.move(0, 1);
+        rows(behind, "1|2 0");
         Edge.says("HOUSES that are empty fall.");
         NewHouses first = Edge.told("person 0;person 0;person 0;");
         Edge.due(first.move(0, 2), 0);
@@ -325,6 +334,16 @@ public final class EdgesOfActsTest {
         Edge.due(first.move(1, 1), 0);
         rows(first, "2 0 1");
         Edge.due(first.count(1), 1);
+        // A HOUSE that has fallen counts no more: 1|2 3 4 0 -> 1 2|3 4 0
+        NewHouses fallen = Edge.told(Edge.people(0, 0, 0, 0, 0) + "house 0;house 1;house 2 3 4;");
+        fallen.move(0, 2);
+        fallen.move(2, 0);
+        rows(fallen, "1 2|3 4 0");
+        int[] counts = {5, 2, 0, 3, 0, 0, 2, 0};
+        for (int what = 0; what < counts.length; what++) Edge.due(fallen.count(what), counts[what]);
+        Edge.due(fallen.partners(0), 2);
+        Edge.due(fallen.size(2, 0), -1);
+        Edge.due(fallen.ahead(0, 2), 0);
         Edge.says("Who MOVES, FOUNDS, is JOINED lives there since this EVENING, but hasn't gone ('moves' stay)");
         NewHouses since = Edge.told(Edge.FIVE);
         since.evenings(3);
@@ -526,6 +545,27 @@ public final class EdgesOfActsTest {
         Edge.due(all.undo(), -1);
         Edge.holds(all.restore());
         Edge.holds(Edge.all(all).equals(before));
+        NewHouses acts = Edge.told(Edge.FIVE);
+        for (int i = 0; i < 5; i++) acts.evenings(1);
+        acts.image();
+        for (int i = 0; i < 40; i++) acts.rank(0, i % 2);
+        acts.restore();
+        for (int left = 4; left >= 0; left--) {
+            Edge.due(acts.undo(), left);
+            Edge.due(acts.count(2), left);
+            Edge.due(acts.person(0, 2), 5);
+        }
+        // Behind 2 it is 0|2 3|1 4: who, when and in a HOUSE of how many, all three come back.
+        NewHouses seen = Edge.told(Edge.FIVE);
+        seen.see(3, 2, 2);
+        seen.image();
+        for (int[] other : new int[][] {{0, 2, 2}, {3, 0, 2}, {3, 2, 3}}) {
+            seen.forget();
+            seen.see(other[0], other[1], other[2]);
+            Edge.due(seen.ranked(2), 0);
+            seen.restore();
+            Edge.due(seen.ranked(2), 1);
+        }
         NewHouses same = Edge.told(Edge.FIVE);
         same.evenings(3);
         before = Edge.all(same);

@@ -350,6 +350,8 @@ public final class EdgesOfEveningsTest {
         Edge.says("RESTLESS in so many EVENINGS (0 to 100): who goes most often in them (of like ones the least)");
         Edge.due(TWO, x -> x.ahead(1, 0), 0);
         Edge.due(TWO_IN_ONE, x -> x.ahead(1, 0), 1);
+        Edge.due(Edge.TWELVE, x -> x.ahead(1, 0), 0);
+        Edge.due(Edge.TWELVE, x -> x.ahead(2, 0), 11);
         Edge.due(Edge.FIVE, x -> x.ahead(100, 0), 4);
         Edge.due("person 0;" + ON_100, x -> x.ahead(100, 0), 0);
         // 1 has gone 5 times before, but doesn't in these.
@@ -405,8 +407,48 @@ public final class EdgesOfEveningsTest {
         Edge.due(TWO + ON_101, x -> x.ahead(100, 3), 1);
     }
 
+    /** What is told of later is the same, whether it was asked for ahead of the change, too, or not. */
+    private static void anew(String text, Edge.Call change) {
+        String rules = text.equals(Edge.FIVE) ? "" : "picks rank;keeps evening=7;";
+        NewHouses asked = Edge.told(text + rules);
+        asked.round(0);
+        change.of(asked);
+        NewHouses fresh = Edge.told(text + rules);
+        change.of(fresh);
+        for (int e = 0; e <= 4; e++) {
+            for (int p = 0; p < fresh.count(0); p++) {
+                for (int what = 0; what <= 3; what++) Edge.due(asked.then(p, e, what), fresh.then(p, e, what));
+            }
+        }
+    }
+
     private static void farEvenings() {
         Edge.says("(If only EVENINGS go by, from now on:)");
+        // What has been told of later holds no more when anything has changed.
+        anew("person 0;person 1;house 0 1;", x -> x.rank(0, 5));
+        anew("person 0;person 0;person 0;", x -> x.move(0, 1));
+        anew("person 0;person 0;house 0 1;", x -> x.found(0));
+        anew("person 0;person 0;person 0;", x -> x.join(0, 1));
+        anew(Edge.FIVE, x -> x.evenings(1));
+        anew(Edge.FIVE, x -> Edge.tell(x, TWO));
+        NewHouses undone = Edge.told(TWO);
+        undone.image();
+        undone.evenings(1);
+        Edge.due(undone.then(0, 1, 3), 1);
+        undone.undo();
+        Edge.due(undone.then(0, 1, 3), 2);
+        undone.evenings(1);
+        Edge.due(undone.then(0, 1, 3), 1);
+        undone.restore();
+        Edge.due(undone.then(0, 1, 3), 2);
+        // Nor does one answer stay in another one.
+        NewHouses known = Edge.told(TWO);
+        Edge.due(known.known(0, 100), 2);
+        Edge.due(known.known(0, 0), 0);
+        Edge.due(known.ahead(100, 3), 0);
+        Edge.due(known.ahead(0, 3), 1);
+        Edge.due(known.known(0, 100), 2);
+        Edge.due(known.allKnown(), 1);
         NewHouses x = Edge.told("person 0;person 0;keeps evening<9999;");
         for (int i = 0; i < 498; i++) x.evenings(20);
         x.evenings(19);

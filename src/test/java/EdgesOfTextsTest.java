@@ -119,6 +119,13 @@ public final class EdgesOfTextsTest {
         for (int p = 0; p < 4; p++) Edge.due(anew.person(p, 3) + anew.person(p, 4), 0);
         for (int h = 0; h < 2; h++) Edge.due(anew.house(h, 6), 0);
 
+        Edge.due(Edge.tell(anew, "person 0;person 0;house 0 1;picks 0-place;keeps 0;"), 0);
+        Edge.due(anew.house(0, 5), 0);
+        Edge.due(Edge.tell(anew, "person 0;person 0;house 0 1;picks place;keeps 1;"), 0);
+        Edge.due(anew.house(0, 5), -1);
+        Edge.due(Edge.tell(anew, "person 0;person 0;house 0 1;picks place;keeps 0;"), 0);
+        Edge.due(anew.house(0, 5), 1);
+
         Edge.says("0, or the FAULT (all stays).");
         NewHouses stays = lived();
         List<Integer> before = Edge.all(stays);
@@ -199,6 +206,8 @@ public final class EdgesOfTextsTest {
     private static void tokens() {
         Edge.says("words (a .. z, the longest row)");
         Edge.fault("persons 5;", 1, 0);
+        Edge.fault("xerson 5;", 1, 0);
+        Edge.fault("persox 5;", 1, 0);
         Edge.fault("perso 5;", 1, 0);
         Edge.fault("personperson 5;", 1, 0);
         Edge.fault("Person 5;", 1, 0);
@@ -285,9 +294,9 @@ public final class EdgesOfTextsTest {
 
     // ---- Terms: what an EXPR gives
 
-    /** PICKS gives most for the one at the PLACE that the EXPR gives: of four. */
+    /** PICKS gives most for the one at the PLACE that the EXPR gives: of five, so that the last one goes, if it gives no other. */
     private static void gives(String expr, int place) {
-        Edge.due("person 1;person 1;person 1;person 1;house 0 1 2 3;picks place=" + expr + ";", x -> x.house(0, 5), place);
+        Edge.due("person 1;person 1;person 1;person 1;person 1;house 0 1 2 3 4;picks place=" + expr + ";", x -> x.house(0, 5), place);
     }
 
     /** KEEPS gives more than 0, or not. */
@@ -387,6 +396,10 @@ public final class EdgesOfTextsTest {
         NewHouses evening = Edge.told("person 0;person 0;house 0 1;picks (0-place)*(evening=20);keeps evening<20;");
         evening.evenings(20);
         Edge.due(evening.house(0, 5), 0);
+        NewHouses first = Edge.told("person 0;person 0;person 0;house 0 1 2;picks (0-place)*(evening=1);");
+        Edge.due(first.house(0, 5), 2);
+        first.evenings(1);
+        Edge.due(first.house(0, 5), 0);
         Edge.says("of KEEPS, for a HOUSE: 'size', 'house' (its number), 'ranks' (of all in it, together), 'old'");
         for (String v : OF_KEEPS) Edge.fine("keeps " + v + ";");
         for (String v : new String[] {"rank", "place", "since", "moves", "hous", "olds", "person"}) Edge.fault("keeps " + v + ";", 3, 6);

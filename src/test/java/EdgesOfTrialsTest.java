@@ -44,6 +44,9 @@ public final class EdgesOfTrialsTest {
         Edge.due("person 0;person 0;person 0;house 0;house 1 2;", x -> x.toMeet(0, 1), 200);
         // Alone they meet behind 1, and nothing is sooner.
         Edge.due("person 0;person 0;person 0;", x -> x.toMeet(0, 2), -1);
+        // The first ones go. 0|1 2 -> 2|0 1 -> 1|2 0, behind 2; 1 to 0: 0 1|2 -> 1|0 2, behind 1.
+        Edge.due("person 0;person 0;person 0;house 0;house 1 2;picks 0-place;", x -> x.meet(0, 2, 0), 2);
+        Edge.due("person 0;person 0;person 0;house 0;house 1 2;picks 0-place;", x -> x.toMeet(0, 2), 100);
         // Just as soon is not sooner: 0 and 1 meet behind 2 without; by 2 or 3 elsewhere they do, too, but not behind 1.
         Edge.due("person 0;person 0;person 0;person 0;keeps evening=0;", x -> x.meet(0, 1, 0), 2);
         Edge.due("person 0;person 0;person 0;person 0;keeps evening=0;", x -> x.toMeet(0, 1), -1);
@@ -53,6 +56,7 @@ public final class EdgesOfTrialsTest {
         Edge.due(Edge.FIVE, x -> x.toMeet(3, 1), 102);
         Edge.due("person 0;person 0;person 0;house 1;house 2 0;", x -> x.toMeet(1, 2), 0);
         Edge.due(Edge.TWELVE, x -> x.toMeet(0, 11), -1);
+        Edge.due(Edge.TWELVE + "keeps 1;", x -> x.toMeet(0, 11), -1);
         // Nobody is moved.
         Edge.due(Edge.FIVE, x -> { x.toMeet(1, 3); return x.count(11) + x.person(1, 0); }, 0);
     }
@@ -139,6 +143,9 @@ public final class EdgesOfTrialsTest {
         Edge.due(row + "friends 0 11;", x -> x.chain(0, 11), 1);
         Edge.due(row + "friends 0 11;", x -> x.chain(0, 6), 6);
         Edge.due(row + "friends 0 11;", x -> x.chain(0, 7), 5);
+        // By either of two.
+        Edge.due("person 0;person 0;person 0;person 0;friends 0 1;friends 0 2;friends 1 3;friends 2 3;", x -> x.chain(0, 3), 2);
+        Edge.due("person 0;person 0;person 0;person 0;friends 1 0;friends 2 0;friends 3 1;friends 3 2;", x -> x.chain(0, 3), 2);
     }
 
     // ---- promises 30 to 33
@@ -224,6 +231,8 @@ public final class EdgesOfTrialsTest {
         Edge.due(late, x -> { x.see(0, 20, 1); return x.ranked(0); }, 4);
         Edge.due(late, x -> { x.see(0, 19, 1); return x.ranked(0); }, 0);
         Edge.due(late, x -> { x.see(0, 19, 3); return x.ranked(0); }, 27);
+        // What was the first by others is not, if there is none.
+        Edge.due(THREE, x -> { x.ranked(1); x.see(0, 0, 12); return x.ranked(1); }, -1);
         // All SEEN count, not one of them.
         Edge.due(THREE, x -> { x.see(0, 1, 1); x.see(0, 0, 2); return x.ranked(0); }, 0);
         Edge.due(THREE, x -> { x.see(0, 0, 3); x.see(0, 1, 1); x.see(1, 1, 2); return x.ranked(0); }, 4);
@@ -243,6 +252,8 @@ public final class EdgesOfTrialsTest {
         Edge.due(THREE, x -> { x.see(0, 0, 1); return x.look(1); }, 0);
         Edge.due("person 0;", x -> x.look(0), 0);
         Edge.due("person 0;", x -> x.look(1), 1);
+        Edge.due(Edge.TWELVE, x -> x.look(0), 0);
+        Edge.due(Edge.TWELVE, x -> x.look(1), 1);
         Edge.says("who behind 5 EVENINGS by these would live in HOUSES of most unlike sizes (of like ones the least)");
         Edge.due(THREE, x -> x.look(0), 0);
         Edge.due(THREE, x -> x.look(1), 2);
@@ -252,6 +263,11 @@ public final class EdgesOfTrialsTest {
         Edge.due(open + "4;", x -> x.look(1), 2);
         Edge.due(open + "5;", x -> x.look(1), 1);
         Edge.due("person 9;person 5;person 0;house 0;house 2 1;keeps ranks<6 or size=1 or evening<4;", x -> x.look(0), 1);
+        // Behind 5, not behind those for which something is SEEN; nor does one answer stay in another one.
+        Edge.due("person 0;person 5;person 5;house 0 1 2;picks rank;keeps evening<4;", x -> { x.see(0, 1, 3); return x.look(1); }, 2);
+        Edge.due("person 0;person 5;person 5;house 0 1 2;picks rank;keeps evening<5;", x -> { x.see(0, 1, 3); return x.look(1); }, 1);
+        Edge.due(THREE, x -> { x.look(0); x.see(0, 0, 12); return x.look(0); }, -1);
+        Edge.due(THREE, x -> { x.look(0); x.see(1, 1, 1); return x.look(1); }, 1);
         // By what is SEEN just those who part are left.
         Edge.due(open + "0;", x -> { x.see(0, 1, 1); return x.look(1); }, 1);
     }
@@ -346,6 +362,10 @@ public final class EdgesOfTrialsTest {
         Edge.due(THREE + "friends 0 2;", x -> x.game(1, 2, 0), 2);
         Edge.due(THREE + "friends 0 2;", x -> x.game(1, 2, 1), 1);
         Edge.due(THREE + "friends 0 2;", x -> x.game(2, 1, 1), 10);
+        // 0 1 2|3: behind 6 for 1, 2: 2|013 for 3, 1; if 2 hides 1|023 for 1, 2; if 1 does 2, 1; if both 0|123 for 2, 2.
+        String both = "person 0;person 0;person 0;person 0;house 0 1 2;";
+        Edge.due(both, x -> x.game(1, 2, 0), 1);
+        Edge.due(both, x -> x.game(1, 2, 1), 11);
     }
 
     // ---- promise 36
@@ -449,6 +469,8 @@ public final class EdgesOfTrialsTest {
         Edge.says("TO JOIN; NONE: none.");
         Edge.due(NewHouses::new, NewHouses::toJoin, -1);
         Edge.due("person 0;", NewHouses::toJoin, -1);
+        Edge.due(Edge.TWELVE, NewHouses::toJoin, -1);
+        Edge.due(Edge.TWELVE + "keeps 1;", NewHouses::toJoin, -1);
         Edge.due(TWO + "house 0 1;", NewHouses::toJoin, -1);
         Edge.says("so that the fewest EVENINGS (0 to 100) are needed till ALL KNOWN, if fewer than without, or there is none without");
         // Two HOUSES that are JOINED are all: 0 EVENINGS.
@@ -464,6 +486,17 @@ public final class EdgesOfTrialsTest {
         Edge.due(late + "98;", NewHouses::toJoin, 1);
         Edge.due(late + "98;", x -> { x.join(0, 1); return x.allKnown(); }, 100);
         Edge.due(late + "99;", NewHouses::toJoin, -1);
+        // The first ones go. 0|1|2 3 -> 3|0 1 2 -> 1 2|3 0 -> 2|0|1 3, behind 3: by joining it is as many, or more.
+        String same = "person 0;person 0;person 0;person 0;house 0;house 1;house 2 3;picks 0-place;";
+        Edge.due(same, NewHouses::allKnown, 3);
+        Edge.due(same, x -> { x.join(0, 1); return x.allKnown(); }, 3);
+        Edge.due(same, NewHouses::toJoin, -1);
+        // 0|1 2|3 -> 1|0 2 3 -> 0 2|1 3 -> 0|1|2 3 -> 2|0 1 3, behind 4; 0 to 1: 1 2 0|3 -> 1 2|0 3 -> 1|0|2 3 -> 2|1 0 3, 3.
+        String one = "person 0;person 0;person 0;person 0;house 0;house 1 2;house 3;";
+        Edge.due(one, NewHouses::allKnown, 4);
+        Edge.due(one, NewHouses::toJoin, 1);
+        // Of joinings one that is sooner by 1, though it is told later: 0 to 1 for 5, 0 to 2 for 4.
+        Edge.due(Edge.people(0, 0, 0, 0, 0) + "house 1 2 4;picks 0-place;", NewHouses::toJoin, 2);
         Edge.says("100 by the first and the other one; of like ones the least; none.");
         Edge.due("person 0;person 0;person 0;person 0;house 2;house 3;house 0 1;", NewHouses::toJoin, 200);
         Edge.due(Edge.FIVE, x -> { x.toJoin(); return x.count(11) + x.count(1); }, 3);

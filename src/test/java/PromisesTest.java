@@ -400,7 +400,8 @@ public final class PromisesTest {
 
     // 8
     private static void evenings() {
-        NewHouses x = told(FIVE);
+        // A short text: the object comes to its 512th call.
+        NewHouses x = told("person 0;");
         due("none", x.evenings(0), -1);
         due("too many", x.evenings(21), -1);
         due("below", x.evenings(-1), -1);
